@@ -1,0 +1,90 @@
+import java.math.BigInteger;
+import java.util.ArrayList;
+import java.util.List;
+import java.util.Random;
+
+/** Numbers of 256 bits for the tests, as BigInteger without sign. */
+final class Wide {
+    static final int REGISTERS = 16;
+    static final BigInteger ZERO = BigInteger.ZERO;
+    static final BigInteger ONE = BigInteger.ONE;
+    static final BigInteger ALL = ONE.shiftLeft(256);
+    static final BigInteger MAX = ALL.subtract(ONE);
+    static final BigInteger LEAST = ONE.shiftLeft(255);
+    static final int[] OUTSIDE_REGISTERS = {-1, 16, 17, 31, -16, 256, Integer.MIN_VALUE, Integer.MAX_VALUE};
+
+    private Wide() {
+    }
+
+    static BigInteger of(long n) {
+        return wrapped(BigInteger.valueOf(n));
+    }
+
+    static BigInteger hex(String digits) {
+        return new BigInteger(digits, 16);
+    }
+
+    static BigInteger wrapped(BigInteger n) {
+        return n.mod(ALL);
+    }
+
+    static BigInteger withSign(BigInteger n) {
+        return n.testBit(255) ? n.subtract(ALL) : n;
+    }
+
+    static void put(WideNumbers w, int r, BigInteger n) {
+        w.set(r, part(n, 0), part(n, 1), part(n, 2), part(n, 3));
+    }
+
+    static long part(BigInteger n, int part) {
+        return n.shiftRight(64 * (3 - part)).longValue();
+    }
+
+    static BigInteger read(WideNumbers w, int r) {
+        BigInteger n = ZERO;
+        for (int part = 0; part < 4; part++) {
+            n = n.shiftLeft(64).add(new BigInteger(Long.toUnsignedString(w.get(r, part))));
+        }
+        return n;
+    }
+
+    /** An object with another number in each register. */
+    static WideNumbers filled() {
+        WideNumbers w = new WideNumbers();
+        for (int r = 0; r < REGISTERS; r++) {
+            put(w, r, filling(r));
+        }
+        return w;
+    }
+
+    static BigInteger filling(int r) {
+        return new BigInteger(256, new Random(1000 + r)).setBit(255 - r);
+    }
+
+    /** Numbers at which carries, signs, parts and the bounds of the document turn. */
+    static List<BigInteger> edges() {
+        List<BigInteger> edges = new ArrayList<>();
+        for (int n : new int[] {0, 1, 2, 3, 7, 8, 15, 29, 30, 31, 32, 33, 63, 64, 127, 128, 254, 255, 256, 257}) {
+            edges.add(of(n));
+        }
+        for (int n : new int[] {-1, -2, -3, -7, -128, -129, -256}) {
+            edges.add(of(n));
+        }
+        for (int bit : new int[] {32, 64, 96, 128, 192, 224, 248, 255}) {
+            edges.add(ONE.shiftLeft(bit).subtract(ONE));
+            edges.add(ONE.shiftLeft(bit));
+            edges.add(ONE.shiftLeft(bit).add(ONE));
+        }
+        edges.add(hex("ffffffff00000000ffffffff00000000ffffffff00000000ffffffff00000000"));
+        edges.add(hex("00000000ffffffff00000000ffffffff00000000ffffffff00000000ffffffff"));
+        edges.add(hex("8081828384858687888990919293949596979899a0a1a2a3a4a5a6a7a8a9b0b1"));
+        edges.add(hex("7f01020304050607080910111213141516171819202122232425262728293031"));
+        return edges;
+    }
+
+    /** Of any length up to 256 bits, so that short ones come as often as long ones. */
+    static BigInteger any(Random random) {
+        BigInteger n = new BigInteger(random.nextInt(257), random);
+        return random.nextInt(4) == 0 ? wrapped(n.negate()) : n;
+    }
+}
