@@ -67,7 +67,7 @@ public final class WideNumbers {
         refuseOutside(r, REGISTERS);
         refuseOutside(part, PARTS);
         int low = lowLimbOfPart(part);
-        return registers[r][low + 1] << LIMB_BITS | registers[r][low];
+        return (registers[r][low + 1] << LIMB_BITS) | registers[r][low];
     }
 
     public void two(int op, int to, int a, int b) throws IllegalArgumentException {
@@ -268,7 +268,7 @@ public final class WideNumbers {
             // With a carry the remainder has 257 bits; the subtraction that wraps takes it back.
             if (carry != 0 || order(remainder, divisor) >= 0) {
                 subtract(remainder, remainder, divisor);
-                quotient[bit / LIMB_BITS] |= 1L << bit % LIMB_BITS;
+                quotient[bit / LIMB_BITS] |= 1L << (bit % LIMB_BITS);
             }
         }
     }
@@ -284,7 +284,7 @@ public final class WideNumbers {
     private static long doubleAndAdd(long[] number, long bit) {
         long carry = bit;
         for (int i = 0; i < LIMBS; i++) {
-            long twice = number[i] << 1 | carry;
+            long twice = (number[i] << 1) | carry;
             number[i] = twice & LIMB_MASK;
             carry = twice >>> LIMB_BITS;
         }
@@ -314,16 +314,16 @@ public final class WideNumbers {
     private static void moveLeft(long[] into, long[] number, int bits) {
         int limbs = bits / LIMB_BITS;
         for (int i = 0; i < LIMBS; i++) {
-            long pair = limbOr(number, i - limbs, 0L) << LIMB_BITS | limbOr(number, i - limbs - 1, 0L);
-            into[i] = pair << bits % LIMB_BITS >>> LIMB_BITS;
+            long pair = (limbOr(number, i - limbs, 0L) << LIMB_BITS) | limbOr(number, i - limbs - 1, 0L);
+            into[i] = (pair << (bits % LIMB_BITS)) >>> LIMB_BITS;
         }
     }
 
     private static void moveRight(long[] into, long[] number, int bits, long outside) {
         int limbs = bits / LIMB_BITS;
         for (int i = 0; i < LIMBS; i++) {
-            long pair = limbOr(number, i + limbs + 1, outside) << LIMB_BITS | limbOr(number, i + limbs, outside);
-            into[i] = pair >>> bits % LIMB_BITS & LIMB_MASK;
+            long pair = (limbOr(number, i + limbs + 1, outside) << LIMB_BITS) | limbOr(number, i + limbs, outside);
+            into[i] = (pair >>> (bits % LIMB_BITS)) & LIMB_MASK;
         }
     }
 
@@ -336,7 +336,7 @@ public final class WideNumbers {
         int fromHighest = valueUpTo(x, NUMBER_BYTES);
         if (fromHighest < NUMBER_BYTES) {
             int bit = BYTE_BITS * (NUMBER_BYTES - 1 - fromHighest);
-            result[0] = y[bit / LIMB_BITS] >>> bit % LIMB_BITS & BYTE_MASK;
+            result[0] = (y[bit / LIMB_BITS] >>> (bit % LIMB_BITS)) & BYTE_MASK;
         }
     }
 
@@ -382,7 +382,7 @@ public final class WideNumbers {
     }
 
     private static long bitAt(long[] row, int bit) {
-        return row[bit / LIMB_BITS] >>> bit % LIMB_BITS & 1L;
+        return (row[bit / LIMB_BITS] >>> (bit % LIMB_BITS)) & 1L;
     }
 
     private static int order(long[] x, long[] y) {

@@ -8,12 +8,14 @@ final class LongRunTest {
     private static final int CLOSING_READS = 4 * Wide.REGISTERS;
 
     private final Check check = new Check();
+    private final String name;
     private final Random random;
     private final WideNumbers w = new WideNumbers();
     private final BigInteger[] model = new BigInteger[Wide.REGISTERS];
     private boolean refused;
 
     private LongRunTest(long seed) {
+        name = "run " + seed + ": ";
         random = new Random(seed);
         Arrays.fill(model, Wide.ZERO);
     }
@@ -25,7 +27,7 @@ final class LongRunTest {
                 run.oneCall();
             }
             for (int r = 0; r < Wide.REGISTERS; r++) {
-                run.check.number("run " + seed + ": register " + r, Wide.read(run.w, r), run.model[r]);
+                run.check.number(run.name + "register " + r, Wide.read(run.w, r), run.model[r]);
             }
             run.check.end();
         }
@@ -54,7 +56,7 @@ final class LongRunTest {
         } catch (IllegalArgumentException e) {
             threw = true;
         }
-        check.same("a call throws", threw, refused);
+        check.same(name + "a call throws", threw, refused);
     }
 
     private void keep(int to, BigInteger n) {
@@ -72,7 +74,7 @@ final class LongRunTest {
         int r = pick(16);
         int part = pick(4);
         long got = w.get(r, part);
-        check.same("get", got, Wide.part(model[r], part));
+        check.same(name + "get", got, Wide.part(model[r], part));
     }
 
     private void callTwo() {
@@ -106,11 +108,11 @@ final class LongRunTest {
         int a = pick(16);
         int b = pick(16);
         boolean sign = random.nextBoolean();
-        check.same("compare", w.compare(a, b, sign), Due.compare(model[a], model[b], sign));
+        check.same(name + "compare", w.compare(a, b, sign), Due.compare(model[a], model[b], sign));
     }
 
     private void callBytes() {
         int a = pick(16);
-        check.same("bytes", w.bytes(a), Due.bytes(model[a]));
+        check.same(name + "bytes", w.bytes(a), Due.bytes(model[a]));
     }
 }
