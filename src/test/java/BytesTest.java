@@ -1,16 +1,18 @@
 import java.math.BigInteger;
 
-/** Promise 8: bytes, how many of them a number needs. */
+/** Promise 8: bytes. */
 final class BytesTest {
     private final Check check = new Check();
 
     public static void main(String[] args) {
         BytesTest test = new BytesTest();
-        test.knownAnswers();
-        test.everyLength();
-        test.everyRegisterServes();
-        test.outsideIsRefused();
-        test.check.end();
+        Check check = test.check;
+        check.sentence("a 0 .. 15", test::registerIsInRange);
+        check.sentence("\"0 for 0\"", test::noneForZero);
+        check.sentence("\"How many bytes are needed for it\"", test::oneByteMore);
+        check.sentence("\"How many bytes are needed for it\", of every length in bits", test::everyLength);
+        check.sentence("every register serves", test::everyRegisterServes);
+        check.end();
     }
 
     private void due(BigInteger a, int answer) {
@@ -20,28 +22,36 @@ final class BytesTest {
         check.number("the register behind bytes", Wide.read(w, 6), a);
     }
 
-    private void knownAnswers() {
+    private void registerIsInRange() {
+        check.range("bytes with a", 16, (w, a) -> w.bytes(a));
+    }
+
+    private void noneForZero() {
         due(Wide.ZERO, 0);
         due(Wide.ONE, 1);
-        due(Wide.of(255), 1);
-        due(Wide.of(256), 2);
-        due(Wide.of(65535), 2);
-        due(Wide.of(65536), 3);
-        due(Wide.of(0xFFFFFFFFL), 4);
-        due(Wide.of(0x100000000L), 5);
-        due(Wide.ONE.shiftLeft(64).subtract(Wide.ONE), 8);
-        due(Wide.ONE.shiftLeft(64), 9);
-        due(Wide.ONE.shiftLeft(248).subtract(Wide.ONE), 31);
-        due(Wide.ONE.shiftLeft(248), 32);
+        due(Wide.MAX, 32);
+        WideNumbers w = Wide.filled();
+        w.two(15, 6, 6, 6);
+        check.same("bytes of a register that became 0", w.bytes(6), 0);
+    }
+
+    /** Around 256 to each power. */
+    private void oneByteMore() {
+        for (int bytes = 1; bytes < 32; bytes++) {
+            BigInteger first = Wide.bit(8 * bytes);
+            due(first.subtract(Wide.ONE), bytes);
+            due(first, bytes + 1);
+            due(first.add(Wide.ONE), bytes + 1);
+        }
+        due(Wide.GREATEST, 32);
         due(Wide.LEAST, 32);
         due(Wide.MAX, 32);
     }
 
     private void everyLength() {
         for (int bit = 0; bit < 256; bit++) {
-            BigInteger lowest = Wide.ONE.shiftLeft(bit);
-            due(lowest, bit / 8 + 1);
-            due(lowest.shiftLeft(1).subtract(Wide.ONE), bit / 8 + 1);
+            due(Wide.bit(bit), bit / 8 + 1);
+            due(Wide.bit(bit + 1).subtract(Wide.ONE), bit / 8 + 1);
         }
     }
 
@@ -52,12 +62,6 @@ final class BytesTest {
             for (int other = 0; other < Wide.REGISTERS; other++) {
                 check.same("bytes(" + other + ")", w.bytes(other), other == r ? 9 : Due.bytes(Wide.filling(other)));
             }
-        }
-    }
-
-    private void outsideIsRefused() {
-        for (int bad : Wide.OUTSIDE_REGISTERS) {
-            check.refused("bytes(" + bad + ")", w -> w.bytes(bad));
         }
     }
 }

@@ -2,8 +2,27 @@ import java.math.BigInteger;
 
 /** Counts what is not as due, and tells it. */
 final class Check {
+    private static final int TOLD_AT_MOST = 10;
+
     private int checks = 0;
     private int wrong = 0;
+    private int told = 0;
+
+    /** One sentence of the document, quoted, with a test of its own; a test that checks nothing fails. */
+    void sentence(String quoted, Runnable test) {
+        int checksBefore = checks;
+        int wrongBefore = wrong;
+        told = 0;
+        try {
+            test.run();
+        } catch (RuntimeException e) {
+            tell("the test was ended by " + e);
+        }
+        if (checks == checksBefore) {
+            tell("nothing was checked");
+        }
+        System.out.println((wrong == wrongBefore ? "  holds: " : "  BROKEN: ") + quoted);
+    }
 
     void same(String what, Object got, Object due) {
         checks++;
@@ -19,26 +38,47 @@ final class Check {
         }
     }
 
+    /** The argument is taken from 0 to below the bound, and refused on both sides, near and far. */
+    void range(String what, int bound, CallWith call) {
+        for (int n : new int[] {0, 1, bound - 2, bound - 1}) {
+            accepted(what + " " + n, w -> call.on(w, n));
+        }
+        for (int n : new int[] {-1, -2, -bound, bound, bound + 1, 2 * bound - 1, 2 * bound, 256, 65536,
+            Integer.MIN_VALUE, Integer.MIN_VALUE + 1, Integer.MAX_VALUE}) {
+            refused(what + " " + n, w -> call.on(w, n));
+        }
+    }
+
+    void accepted(String what, Call call) {
+        same(what + ": what is thrown", thrown(Wide.filled(), call), "nothing");
+    }
+
     /** The call must throw IllegalArgumentException itself and leave all registers as they were. */
     void refused(String what, Call call) {
-        checks++;
         WideNumbers w = Wide.filled();
-        try {
-            call.on(w);
-            tell(what + " threw nothing");
-        } catch (RuntimeException e) {
-            if (e.getClass() != IllegalArgumentException.class) {
-                tell(what + " threw " + e.getClass().getName());
-            }
-        }
+        refusedOn(w, what, call);
         for (int r = 0; r < Wide.REGISTERS; r++) {
             number(what + ": register " + r + " behind it", Wide.read(w, r), Wide.filling(r));
         }
     }
 
+    void refusedOn(WideNumbers w, String what, Call call) {
+        same(what + ": what is thrown", thrown(w, call), "java.lang.IllegalArgumentException");
+    }
+
+    private static String thrown(WideNumbers w, Call call) {
+        try {
+            call.on(w);
+            return "nothing";
+        } catch (RuntimeException e) {
+            return e.getClass().getName();
+        }
+    }
+
     private void tell(String text) {
         wrong++;
-        if (wrong <= 20) {
+        told++;
+        if (told <= TOLD_AT_MOST) {
             System.out.println(text);
         }
     }
@@ -53,5 +93,9 @@ final class Check {
 
     interface Call {
         void on(WideNumbers w);
+    }
+
+    interface CallWith {
+        void on(WideNumbers w, int n);
     }
 }

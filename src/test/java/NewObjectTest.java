@@ -1,28 +1,33 @@
-/** Promise 1: all registers of a new object are 0. */
+/** Promise 1: a new object. */
 final class NewObjectTest {
+    private final Check check = new Check();
+
     public static void main(String[] args) {
-        Check check = new Check();
-        allAreZero(check, new WideNumbers(), "first object");
-        Wide.filled();
-        allAreZero(check, new WideNumbers(), "object made behind a filled one");
-        objectsAreApart(check);
-        check.end();
+        NewObjectTest test = new NewObjectTest();
+        test.check.sentence("\"All REGISTERS are 0.\"", test::allAreZero);
+        test.check.sentence("\"All REGISTERS are 0\", whatever other objects hold", test::otherObjectsStayApart);
+        test.check.end();
     }
 
-    private static void allAreZero(Check check, WideNumbers w, String which) {
+    private void allAreZero() {
+        expectZeros(new WideNumbers(), "a new object");
+    }
+
+    private void otherObjectsStayApart() {
+        WideNumbers before = new WideNumbers();
+        Wide.filled();
+        Wide.used();
+        expectZeros(before, "an object made before others were filled");
+        expectZeros(new WideNumbers(), "an object made behind filled ones");
+    }
+
+    private void expectZeros(WideNumbers w, String which) {
         for (int r = 0; r < Wide.REGISTERS; r++) {
             for (int part = 0; part < 4; part++) {
                 check.same(which + ": get(" + r + ", " + part + ")", w.get(r, part), 0L);
             }
             check.same(which + ": bytes(" + r + ")", w.bytes(r), 0);
+            check.same(which + ": compare(" + r + ", 0, false)", w.compare(r, 0, false), 0);
         }
-    }
-
-    private static void objectsAreApart(Check check) {
-        WideNumbers one = new WideNumbers();
-        WideNumbers other = new WideNumbers();
-        one.set(3, 1, 2, 3, 4);
-        one.two(2, 4, 3, 3);
-        allAreZero(check, other, "object beside a used one");
     }
 }

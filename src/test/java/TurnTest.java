@@ -1,17 +1,20 @@
 import java.math.BigInteger;
 import java.util.Random;
 
-/** Promise 6: turn, to 0 - a and to a with each bit the other one. */
+/** Promise 6: turn. */
 final class TurnTest {
     private final Check check = new Check();
 
     public static void main(String[] args) {
         TurnTest test = new TurnTest();
-        test.knownAnswers();
-        test.edgesAndAnyNumbers();
-        test.everyRegisterServes();
-        test.outsideIsRefused();
-        test.check.end();
+        Check check = test.check;
+        check.sentence("to 0 .. 15", test::targetIsInRange);
+        check.sentence("a 0 .. 15", test::sourceIsInRange);
+        check.sentence("\"0 - a\"", test::negated);
+        check.sentence("\"not: a with each bit the other one\"", test::inverted);
+        check.sentence("\"REGISTER to is\" that, a too, and no other changes", test::everyRegisterServes);
+        check.sentence("numbers at the edges and any numbers", test::edgesAndAnyNumbers);
+        check.end();
     }
 
     private void due(BigInteger a, boolean not, BigInteger answer) {
@@ -19,18 +22,48 @@ final class TurnTest {
         Wide.put(w, 2, a);
         w.turn(12, 2, not);
         check.number("turn(" + not + ") of " + a.toString(16), Wide.read(w, 12), answer);
+        check.number("a behind it", Wide.read(w, 2), a);
     }
 
-    private void knownAnswers() {
+    private void targetIsInRange() {
+        for (boolean not : Wide.BOTH) {
+            check.range("turn(" + not + ") with to", 16, (w, to) -> w.turn(to, 1, not));
+        }
+    }
+
+    private void sourceIsInRange() {
+        for (boolean not : Wide.BOTH) {
+            check.range("turn(" + not + ") with a", 16, (w, a) -> w.turn(0, a, not));
+        }
+    }
+
+    private void negated() {
         due(Wide.ZERO, false, Wide.ZERO);
         due(Wide.ONE, false, Wide.MAX);
+        due(Wide.of(2), false, Wide.of(-2));
         due(Wide.MAX, false, Wide.ONE);
+        due(Wide.of(-2), false, Wide.of(2));
         due(Wide.LEAST, false, Wide.LEAST);
-        due(Wide.of(7), false, Wide.of(-7));
+        due(Wide.GREATEST, false, Wide.LEAST.add(Wide.ONE));
+        due(Wide.LEAST.add(Wide.ONE), false, Wide.GREATEST);
+        for (int place = 0; place < 256; place++) {
+            BigInteger bit = Wide.bit(place);
+            due(bit, false, Wide.ALL.subtract(bit));
+            due(Wide.wrapped(bit.add(Wide.ONE)), false, Wide.MAX.subtract(bit));
+        }
+    }
+
+    private void inverted() {
         due(Wide.ZERO, true, Wide.MAX);
         due(Wide.MAX, true, Wide.ZERO);
         due(Wide.ONE, true, Wide.of(-2));
-        due(Wide.LEAST, true, Wide.LEAST.subtract(Wide.ONE));
+        due(Wide.of(-2), true, Wide.ONE);
+        due(Wide.LEAST, true, Wide.GREATEST);
+        due(Wide.GREATEST, true, Wide.LEAST);
+        for (int place = 0; place < 256; place++) {
+            due(Wide.bit(place), true, Wide.MAX.clearBit(place));
+            due(Wide.MAX.clearBit(place), true, Wide.bit(place));
+        }
     }
 
     private void edgesAndAnyNumbers() {
@@ -60,15 +93,6 @@ final class TurnTest {
         for (int r = 0; r < Wide.REGISTERS; r++) {
             BigInteger due = r == to ? Due.turn(Wide.filling(a), not) : Wide.filling(r);
             check.number("register " + r + " behind turn(" + to + ", " + a + ", " + not + ")", Wide.read(w, r), due);
-        }
-    }
-
-    private void outsideIsRefused() {
-        for (int bad : Wide.OUTSIDE_REGISTERS) {
-            for (boolean not : new boolean[] {false, true}) {
-                check.refused("turn(" + bad + ", 1, " + not + ")", w -> w.turn(bad, 1, not));
-                check.refused("turn(0, " + bad + ", " + not + ")", w -> w.turn(0, bad, not));
-            }
         }
     }
 }

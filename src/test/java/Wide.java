@@ -11,7 +11,10 @@ final class Wide {
     static final BigInteger ALL = ONE.shiftLeft(256);
     static final BigInteger MAX = ALL.subtract(ONE);
     static final BigInteger LEAST = ONE.shiftLeft(255);
-    static final int[] OUTSIDE_REGISTERS = {-1, 16, 17, 31, -16, 256, Integer.MIN_VALUE, Integer.MAX_VALUE};
+    static final BigInteger GREATEST = LEAST.subtract(ONE);
+    /** Its bytes differ from each other, and its highest bit is set. */
+    static final BigInteger MIXED = hex("8081828384858687888990919293949596979899a0a1a2a3a4a5a6a7a8a9b0b1");
+    static final boolean[] BOTH = {false, true};
 
     private Wide() {
     }
@@ -22,6 +25,11 @@ final class Wide {
 
     static BigInteger hex(String digits) {
         return new BigInteger(digits, 16);
+    }
+
+    /** Two to this power. */
+    static BigInteger bit(int place) {
+        return ONE.shiftLeft(place);
     }
 
     static BigInteger wrapped(BigInteger n) {
@@ -57,6 +65,18 @@ final class Wide {
         return w;
     }
 
+    /** An object that other calls have used before, with something left over wherever they work. */
+    static WideNumbers used() {
+        WideNumbers w = new WideNumbers();
+        put(w, 14, MAX);
+        put(w, 15, LEAST.add(of(5)));
+        w.two(7, 13, 14, 14);
+        w.two(5, 13, 15, 14);
+        w.two(3, 13, 14, 15);
+        w.modular(13, 14, 14, 15, true);
+        return w;
+    }
+
     static BigInteger filling(int r) {
         return new BigInteger(256, new Random(1000 + r)).setBit(255 - r);
     }
@@ -71,13 +91,13 @@ final class Wide {
             edges.add(of(n));
         }
         for (int bit : new int[] {32, 64, 96, 128, 192, 224, 248, 255}) {
-            edges.add(ONE.shiftLeft(bit).subtract(ONE));
-            edges.add(ONE.shiftLeft(bit));
-            edges.add(ONE.shiftLeft(bit).add(ONE));
+            edges.add(bit(bit).subtract(ONE));
+            edges.add(bit(bit));
+            edges.add(bit(bit).add(ONE));
         }
         edges.add(hex("ffffffff00000000ffffffff00000000ffffffff00000000ffffffff00000000"));
         edges.add(hex("00000000ffffffff00000000ffffffff00000000ffffffff00000000ffffffff"));
-        edges.add(hex("8081828384858687888990919293949596979899a0a1a2a3a4a5a6a7a8a9b0b1"));
+        edges.add(MIXED);
         edges.add(hex("7f01020304050607080910111213141516171819202122232425262728293031"));
         return edges;
     }
