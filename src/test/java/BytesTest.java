@@ -2,7 +2,7 @@ import java.math.BigInteger;
 
 /** Promise 8: bytes. */
 final class BytesTest {
-    private final Check check = new Check();
+    private final Check check = new Check("promise 8");
 
     public static void main(String[] args) {
         BytesTest test = new BytesTest();

@@ -4,9 +4,15 @@ import java.math.BigInteger;
 final class Check {
     private static final int TOLD_AT_MOST = 10;
 
+    private final String section;
     private int checks = 0;
     private int wrong = 0;
     private int told = 0;
+
+    /** The section of the document whose sentences are checked. */
+    Check(String section) {
+        this.section = section;
+    }
 
     /** One sentence of the document, quoted, with a test of its own; a test that checks nothing fails. */
     void sentence(String quoted, Runnable test) {
@@ -21,7 +27,7 @@ final class Check {
         if (checks == checksBefore) {
             tell("nothing was checked");
         }
-        System.out.println((wrong == wrongBefore ? "  holds: " : "  BROKEN: ") + quoted);
+        System.out.println((wrong == wrongBefore ? "  holds: " : "  BROKEN: ") + section + ": " + quoted);
     }
 
     void same(String what, Object got, Object due) {

@@ -3,7 +3,7 @@ import java.util.Random;
 
 /** Promise 7: compare. */
 final class CompareTest {
-    private final Check check = new Check();
+    private final Check check = new Check("promise 7");
 
     public static void main(String[] args) {
         CompareTest test = new CompareTest();

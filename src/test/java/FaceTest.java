@@ -17,14 +17,18 @@ final class FaceTest {
         "public int WideNumbers.bytes(int) throws java.lang.IllegalArgumentException");
 
     public static void main(String[] args) {
-        Check check = new Check();
+        Check check = new Check("the public face");
+        check.sentence("the class is public and final", () -> type(check));
+        check.sentence("one constructor", () -> constructors(check));
+        check.sentence("these methods and no other open one", () -> methods(check));
+        check.sentence("no open field, no static state", () -> fields(check));
+        check.end();
+    }
+
+    private static void type(Check check) {
         int type = WideNumbers.class.getModifiers();
         check.same("the class is public", Modifier.isPublic(type), true);
         check.same("the class is final", Modifier.isFinal(type), true);
-        constructors(check);
-        methods(check);
-        fields(check);
-        check.end();
     }
 
     private static void constructors(Check check) {
@@ -45,7 +49,8 @@ final class FaceTest {
         check.same("the methods that are not private", open, FACE);
         for (Method method : WideNumbers.class.getDeclaredMethods()) {
             boolean hidden = Modifier.isPrivate(method.getModifiers());
-            check.same("private " + method.getName() + " bears a public name", hidden && openNames.contains(method.getName()), false);
+            check.same("private " + method.getName() + " bears a public name",
+                hidden && openNames.contains(method.getName()), false);
             check.same(method.getName() + " has over seven parameters", method.getParameterCount() > 7, false);
         }
     }

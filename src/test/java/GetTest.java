@@ -1,6 +1,6 @@
 /** Promise 3: get. */
 final class GetTest {
-    private final Check check = new Check();
+    private final Check check = new Check("promise 3");
 
     public static void main(String[] args) {
         GetTest test = new GetTest();

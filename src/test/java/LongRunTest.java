@@ -7,29 +7,35 @@ final class LongRunTest {
     private static final int CALLS = 512;
     private static final int CLOSING_READS = 4 * Wide.REGISTERS;
 
-    private final Check check = new Check();
+    private final Check check;
     private final String name;
     private final Random random;
     private final WideNumbers w = new WideNumbers();
     private final BigInteger[] model = new BigInteger[Wide.REGISTERS];
     private boolean refused;
 
-    private LongRunTest(long seed) {
+    private LongRunTest(Check check, long seed) {
+        this.check = check;
         name = "run " + seed + ": ";
         random = new Random(seed);
         Arrays.fill(model, Wide.ZERO);
     }
 
     public static void main(String[] args) {
+        Check check = new Check("what it is");
+        check.sentence("\"at most 512 calls\", of all kinds, beside a model", () -> runs(check));
+        check.end();
+    }
+
+    private static void runs(Check check) {
         for (int seed = 0; seed < 300; seed++) {
-            LongRunTest run = new LongRunTest(seed);
+            LongRunTest run = new LongRunTest(check, seed);
             for (int i = 0; i < CALLS - CLOSING_READS; i++) {
                 run.oneCall();
             }
             for (int r = 0; r < Wide.REGISTERS; r++) {
-                run.check.number(run.name + "register " + r, Wide.read(run.w, r), run.model[r]);
+                check.number(run.name + "register " + r, Wide.read(run.w, r), run.model[r]);
             }
-            run.check.end();
         }
     }
 

@@ -4,7 +4,7 @@ import java.util.Random;
 
 /** Promise 5: modular. */
 final class ModularTest {
-    private final Check check = new Check();
+    private final Check check = new Check("promise 5");
 
     public static void main(String[] args) {
         ModularTest test = new ModularTest();
@@ -95,6 +95,7 @@ final class ModularTest {
         due(Wide.MAX, Wide.MAX, Wide.MAX, false, Wide.ZERO);
         due(Wide.MAX, Wide.MAX, Wide.of(-2), false, Wide.of(2));
         due(Wide.MAX, Wide.MAX, Wide.LEAST, false, Wide.of(2).negate().mod(Wide.LEAST));
+        // What is kept at a step of the division may need one bit more than a number has.
         due(Wide.MAX, Wide.MAX, Wide.LEAST.add(Wide.ONE), false, Wide.GREATEST.subtract(Wide.of(4)));
     }
 

@@ -1,6 +1,6 @@
 /** Promise 1: a new object. */
 final class NewObjectTest {
-    private final Check check = new Check();
+    private final Check check = new Check("promise 1");
 
     public static void main(String[] args) {
         NewObjectTest test = new NewObjectTest();

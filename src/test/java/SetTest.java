@@ -5,7 +5,7 @@ final class SetTest {
     private static final long[] PARTS_AT_EDGES = {0, 1, -1, Long.MIN_VALUE, Long.MIN_VALUE + 1, Long.MAX_VALUE,
         0x7FFFFFFFL, 0x80000000L, 0xFFFFFFFFL, 0x100000000L, 0xFFFFFFFF00000000L};
 
-    private final Check check = new Check();
+    private final Check check = new Check("promise 2");
 
     public static void main(String[] args) {
         SetTest test = new SetTest();

@@ -4,7 +4,7 @@ import java.math.BigInteger;
 final class TermsTest {
     private static final int CALLS = 512;
 
-    private final Check check = new Check();
+    private final Check check = new Check("terms");
 
     public static void main(String[] args) {
         TermsTest test = new TermsTest();

@@ -3,7 +3,7 @@ import java.util.Random;
 
 /** Promise 6: turn. */
 final class TurnTest {
-    private final Check check = new Check();
+    private final Check check = new Check("promise 6");
 
     public static void main(String[] args) {
         TurnTest test = new TurnTest();

@@ -66,7 +66,7 @@ final class TwoBitsTest extends TwoOf {
         due(8, Wide.of(29), Wide.bit(239), Wide.wrapped(Wide.bit(239).negate()));
     }
 
-    /** The document does not say what is due here; "b" is what is left of its sentence without the condition's part. */
+    /** The document names no answer of its own here: with no bit to be put in, its sentence leaves b. */
     private void fromThirtyOneOn() {
         for (BigInteger a : from(31)) {
             for (BigInteger b : new BigInteger[] {Wide.MIXED, Wide.of(0x80), Wide.bit(247), Wide.bit(248), Wide.LEAST,

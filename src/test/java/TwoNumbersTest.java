@@ -135,7 +135,6 @@ final class TwoNumbersTest extends TwoOf {
         due(4, Wide.MAX, Wide.MAX, Wide.ZERO);
         due(3, Wide.MAX.subtract(Wide.ONE), Wide.MAX, Wide.ZERO);
         due(4, Wide.MAX.subtract(Wide.ONE), Wide.MAX, Wide.of(-2));
-        // What is kept at a step of the division may need one bit more than a number has.
         due(3, Wide.MAX, Wide.LEAST.add(Wide.ONE), Wide.ONE);
         due(4, Wide.MAX, Wide.LEAST.add(Wide.ONE), Wide.GREATEST.subtract(Wide.ONE));
         due(3, Wide.LEAST, Wide.MAX, Wide.ZERO);
@@ -245,8 +244,10 @@ final class TwoNumbersTest extends TwoOf {
         due(7, Wide.MAX, Wide.of(2), Wide.ONE);
         due(7, Wide.MAX, Wide.LEAST, Wide.ONE);
         due(7, Wide.LEAST, Wide.of(2), Wide.ZERO);
-        // The powers of an odd number come round again after 2^254 steps at most.
+        // The powers of 3 come round again after 2^254 steps, and no sooner.
+        due(7, Wide.of(3), Wide.bit(253), Wide.LEAST.add(Wide.ONE));
         due(7, Wide.of(3), Wide.bit(254), Wide.ONE);
+        due(7, Wide.of(3), Wide.LEAST, Wide.ONE);
         due(7, Wide.of(3), Wide.bit(254).add(Wide.of(5)), Wide.of(243));
     }
 

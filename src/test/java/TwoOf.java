@@ -2,7 +2,7 @@ import java.math.BigInteger;
 
 /** Calls of two for the tests of promise 4. */
 abstract class TwoOf {
-    final Check check = new Check();
+    final Check check = new Check("promise 4");
 
     /** On a new object and on a used one, so that nothing left over from earlier calls comes into the answer. */
     final void due(int op, BigInteger a, BigInteger b, BigInteger answer) {
